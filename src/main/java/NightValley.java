@@ -448,10 +448,6 @@ public final class NightValley {
         return spread > 0 ? light / spread : 0;
     }
 
-    private static boolean isBetween(int middle, int one, int other) {
-        return middle >= Math.min(one, other) && middle <= Math.max(one, other);
-    }
-
     private void ageLamps() {
         for (int i = 0; i < lamps.size(); i++) {
             Lamp lamp = lamps.get(i);
@@ -506,7 +502,7 @@ public final class NightValley {
         return all;
     }
 
-    // Only the rows and columns between the two are walked: no other ridge can shade.
+    // A ridge shades only from between the two, so their rows and columns alone are walked.
     private boolean isShaded(Place lamp, Place seen) {
         int left = Math.min(lamp.x, seen.x);
         int right = Math.max(lamp.x, seen.x);
@@ -579,9 +575,7 @@ public final class NightValley {
         }
 
         boolean shades(Place lamp, Place seen) {
-            return ridge && this != lamp && this != seen
-                && isBetween(x, lamp.x, seen.x) && isBetween(y, lamp.y, seen.y)
-                && isNearLine(lamp, seen);
+            return ridge && this != lamp && this != seen && isNearLine(lamp, seen);
         }
 
         private boolean isNearLine(Place lamp, Place seen) {

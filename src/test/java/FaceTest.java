@@ -53,7 +53,7 @@ final class FaceTest {
         constants();
         methods();
         constructors();
-        innerMethods();
+        innerClasses();
         Check.end();
     }
 
@@ -117,7 +117,7 @@ final class FaceTest {
         Check.due("it is public", all[0].getModifiers(), Modifier.PUBLIC);
     }
 
-    private static void innerMethods() {
+    private static void innerClasses() {
         Class<?>[] inner = NightValley.class.getDeclaredClasses();
         Check.due("at most twelve classes", inner.length < 12, true);
         for (Class<?> one : inner) {

@@ -2,6 +2,7 @@
 final class GroundTest {
     public static void main(String[] args) {
         ground();
+        groundOfOthers();
         groundOnly();
         wayInTheDark();
         wayRound();
@@ -22,6 +23,16 @@ final class GroundTest {
         Check.due("of those that BURN", x.ground(0), 1000);
         x.vote(0, 0, 1, 1, 0);
         Check.due("by its LIGHT", x.ground(0), 900);
+    }
+
+    private static void groundOfOthers() {
+        NightValley x = new NightValley();
+        x.village(1, 0);
+        x.lamp(0, 43, 1000, NightValley.AMBER, 0);
+        Check.due("1 right, 1 down", x.ground(52), 1000 / 3);
+        Check.due("2 left, 2 up", x.ground(25), 1000 / 9);
+        Check.due("3 left, 5 up", x.ground(0), 1000 / 35);
+        Check.due("4 right, 2 down", x.ground(63), 1000 / 21);
     }
 
     private static void groundOnly() {
@@ -76,6 +87,13 @@ final class GroundTest {
         Check.due("round it", x.way(26, 28, 5000), 4);
         Check.due("farther round it", x.way(26, 28, 4999), NightValley.NONE);
         Check.due("asked again", x.way(27, 27, 10000), 0);
+        NightValley corners = new NightValley();
+        corners.village(1, 0);
+        corners.lamp(0, 0, 1, 0, 0);
+        corners.lamp(0, 63, 1, 0, 0);
+        Check.due("a lamp at 0", corners.way(0, 0, 0), NightValley.NONE);
+        Check.due("a lamp at 63", corners.way(63, 63, 0), NightValley.NONE);
+        Check.due("between them", corners.way(1, 62, 0), 12);
     }
 
     private static void refuses() {

@@ -203,6 +203,9 @@ final class LampTest {
             Check.due("ofVillage(0, " + what + ")", x.ofVillage(0, what), due[what]);
             Check.due("ofVillage(1, " + what + ")", x.ofVillage(1, what), dueOther[what]);
         }
+        x.hours(1, 12, 13);
+        Check.due("one of village 0 BURNS", x.ofVillage(0, 2), 1);
+        Check.due("none of village 1", x.ofVillage(1, 2), 0);
         Check.refused("ofVillage(2, 4)", Check.INDEX, () -> x.ofVillage(2, 4));
         Check.refused("ofVillage(-1, 0)", Check.INDEX, () -> x.ofVillage(-1, 0));
         Check.refused("ofVillage(0, 4)", Check.ARGUMENT, () -> x.ofVillage(0, 4));

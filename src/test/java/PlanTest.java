@@ -52,6 +52,10 @@ final class PlanTest {
         full.lamp(0, 0, 1000, NightValley.WARM, 10);
         full.lamp(0, 0, 1000, NightValley.WARM, 9);
         Check.due("a full SHIELD is no gain", full.plan(0, 0, 100), 2);
+        Check.due("a full SHIELD is no gain for nothing", full.plan(0, 0, 0), 0);
+        NightValley weak = withVillage();
+        weak.lamp(0, 0, 1, NightValley.AMBER, 0);
+        Check.due("a gain of 1", weak.plan(0, 0, 20), 1);
     }
 
     private static void bound() {
@@ -68,9 +72,9 @@ final class PlanTest {
         for (int i = 0; i < 17; i++) {
             x.pass(500);
         }
-        x.pass(254);
+        x.pass(259);
         Check.due("BOUND to the last", x.plan(0, 0, 10000), 4);
-        x.pass(10);
+        x.pass(1);
         Check.due("BOUND no more", x.plan(0, 0, 10000), 7);
     }
 

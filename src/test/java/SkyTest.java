@@ -59,6 +59,7 @@ final class SkyTest {
             {0, 1, 2}, {2, 1, 0}, {0, 8, 16}, {16, 8, 0}, {0, 9, 18}, {18, 9, 0}, {7, 14, 21}, {56, 49, 42},
             {0, 1, 10}, {0, 9, 10}, {10, 1, 0}, {10, 9, 0}, {0, 8, 17}, {0, 9, 17},
             {0, 1, 11}, {0, 10, 11}, {0, 36, 63}, {0, 10, 29}, {0, 19, 29}, {63, 44, 34}, {24, 25, 31},
+            {16, 8, 1}, {16, 9, 1}, {17, 8, 0}, {63, 38, 21}, {56, 41, 34},
         };
         for (int[] line : lines) {
             NightValley x = withLamp(line[0], 1000, NightValley.AMBER, 0);
@@ -117,6 +118,8 @@ final class SkyTest {
                 Check.due("lamp " + lamp + " from direction " + direction,
                     x.glowFrom(35, direction), direction == due ? x.glow(35) : 0);
             }
+            x.lamp(0, lamp, 10, NightValley.AMBER, 0);
+            Check.due("two lamps at " + lamp, x.glowFrom(35, due), x.gives(0, 35) + x.gives(1, 35));
         }
     }
 

@@ -121,6 +121,10 @@ final class ValleyTest {
         Check.due("the same day again", x.feast(0, 1), 1);
         Check.due("feast of another ZONE", x.feast(1, 0), 1);
         Check.due("does not matter here", x.ofLamp(0, 0), 0);
+        x.zone(0, 1);
+        x.law(1, 18, NightValley.COLD, 0);
+        Check.due("it matters in its ZONE, on day 0", x.ofLamp(0, 0), 1);
+        x.zone(0, 0);
         Check.due("feast(0, 999)", x.feast(0, 999), 2);
         x.pass(24);
         for (int hour = 0; hour < 24; hour++) {

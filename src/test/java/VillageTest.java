@@ -48,6 +48,8 @@ final class VillageTest {
         NightValley x = withVillage(9, 1000);
         Check.due("4 of 9 are too few", x.vote(0, 1, 0, 4, 0), NightValley.NONE);
         Check.due("as many noes", x.vote(0, 1, 0, 4, 4), NightValley.NONE);
+        Check.due("no yeses", x.vote(0, 1, 0, 0, 9), NightValley.NONE);
+        Check.due("no votes", x.vote(0, 1, 0, 0, 0), NightValley.NONE);
         Check.due("more noes", x.vote(0, 1, 0, 4, 5), NightValley.NONE);
         Check.due("nothing is paid", x.ofVillage(0, 0), 1000);
         Check.due("nothing is raised", x.ofLamp(0, 3), 0);
@@ -78,6 +80,12 @@ final class VillageTest {
         Check.due("SHIELD then", rich.ofLamp(0, 3), 10);
         Check.due("DIM then", rich.ofLamp(0, 4), 10);
         Check.due("LIGHT then", rich.ofLamp(0, 1), 0);
+        NightValley twice = withVillage(1, 10000);
+        twice.vote(0, 2, 3, 1, 0);
+        for (int i = 0; i < 18; i++) {
+            twice.pass(500);
+        }
+        Check.due("just what is raised: 5 SHIELD, 3 DIM", twice.vote(0, 7, 6, 1, 0), 10);
         NightValley fined = withVillage(1, 5);
         fined.law(0, 24, 0, 0);
         fined.inspect(0);
