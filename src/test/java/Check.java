@@ -1,3 +1,5 @@
+import java.util.Arrays;
+
 /** What all tests share: it counts answers that are not due, and ends the test with exit code 1 if there was one. */
 final class Check {
     static final Class<?> INDEX = IndexOutOfBoundsException.class;
@@ -6,6 +8,7 @@ final class Check {
 
     private static int wrong = 0;
     private static int checks = 0;
+    private static String test = "";
 
     private Check() {
     }
@@ -13,9 +16,29 @@ final class Check {
     static void due(String call, long got, long want) {
         checks++;
         if (got != want) {
-            wrong++;
-            System.out.println(call + " answered " + got + ", due is " + want);
+            tell(call + " answered " + got + ", due is " + want);
         }
+    }
+
+    private static void tell(String text) {
+        wrong++;
+        System.out.println(test + text);
+    }
+
+    /** Runs a test of a name, which stands ahead of all that is wrong in it; one that checks nothing is wrong too. */
+    static void within(String name, Runnable made) {
+        int before = checks;
+        test = name;
+        made.run();
+        if (checks == before) {
+            tell("checks nothing");
+        }
+        test = "";
+    }
+
+    static void broken(Throwable thrown) {
+        checks++;
+        tell("ends by " + thrown + " at " + Arrays.toString(thrown.getStackTrace()));
     }
 
     static void due(String call, boolean got, boolean want) {
@@ -28,13 +51,11 @@ final class Check {
             made.run();
         } catch (RuntimeException thrown) {
             if (thrown.getClass() != kind || !isWritten(thrown)) {
-                wrong++;
-                System.out.println(call + " throws " + thrown + ", due is " + kind.getName());
+                tell(call + " throws " + thrown + ", due is " + kind.getName());
             }
             return;
         }
-        wrong++;
-        System.out.println(call + " throws nothing, due is " + kind.getName());
+        tell(call + " throws nothing, due is " + kind.getName());
     }
 
     /** Whether a statement of the class threw it, and not the machine or the library. */
